@@ -96,6 +96,11 @@ public final class ForecastTest {
         x.run(1);
         CHECK.same("35: from now on", x.expected(0, 1), 30);
         CHECK.same("36: from now on", x.cutMonths(1, 36), 36);
+        WaterExchange fresh = Use.of("reach 60 0;season 100 50;accounts 2;right 0 0 1 50;lease 0 1 0 30 2 2;");
+        CHECK.same("36: asked first", fresh.cutMonths(0, 2), 1);
+        CHECK.same("37: asked next", fresh.balanceAfter(0, 1), 60);
+        CHECK.same("35: asked next", fresh.expected(0, 2), 80);
+        CHECK.same("37: the loss of another account", fresh.balanceAfter(1, 36), -120);
     }
 
     private static void driest() {
@@ -164,6 +169,8 @@ public final class ForecastTest {
         CHECK.same("41: in place of its leases, without its option", x.bestReach(0), 1);
         x = Use.of("reach 100 0;reach 0 0;right 0 0 1 60;lease 0 0 0 60 1 9;");
         CHECK.same("41: its own lease takes nothing from it", x.bestReach(0), 0);
+        x = Use.of("reach 30 0;reach 30 0;right 0 0 1 40;right 0 0 2 20;lease 1 0 1 20 1 9;lease 0 0 0 40 1 9;");
+        CHECK.same("41: in place of the last lease", x.bestReach(0), 1);
         x = Use.of("reach 100 0;reach 60 0;right 0 0 1 60;right 0 0 2 60;lease 0 0 1 60 1 9;");
         CHECK.same("41: other leases stay", x.bestReach(1), 0);
         CHECK.same("41: nothing anywhere", Use.of("reach 0 0;reach 0 0;right 0 0 1 7;").bestReach(0), 0);
@@ -191,6 +198,8 @@ public final class ForecastTest {
         CHECK.same("42: as the last one it gets 20", x.injured(0, 0, 45), 4);
         x = Use.of(river + "lease 2 0 1 5 1 9;");
         CHECK.same("42: all claims together", x.injured(0, 0, 30), 4);
+        x = Use.of("reach 50 0;reach 50 0;right 0 0 7 20;right 0 0 8 30;right 0 1 1 60;");
+        CHECK.same("42: right 0 and right 1 by right 2", x.injured(2, 0, 45), 1 | 2);
         x = Use.of("reach 90 0;right 0 0 1 80 returns 50 0;right 0 0 2 60;");
         CHECK.same("42: 40 for good, returned or not wanted", x.injured(0, 0, 80), 0);
         x.setMinimum(0, 40);
@@ -209,6 +218,8 @@ public final class ForecastTest {
         x = Use.of("reach 500 0;right 0 0 1 3;right 0 0 2 6;");
         CHECK.same("43: nobody was cut", x.blocked(0), 0);
         CHECK.same("43: one right", Use.of("reach 5 0;right 0 0 1 9;").blocked(0), 0);
+        x = Use.of("reach 50 0;right 0 0 9 60;right 0 0 8 50;");
+        CHECK.same("43: right 0 by right 1", x.blocked(1), 1);
         StringBuilder all = new StringBuilder("reach 900 0;");
         for (int i = 0; i < 10; i++) {
             all.append("right 0 0 ").append(20 - i).append(" 999;");

@@ -120,6 +120,30 @@ public final class InputTest {
         CHECK.fails("4: the buffer is empty", x.truncate(1));
         CHECK.same("4: an empty text", x.load(), 0);
         CHECK.same("4: an empty text", x.count(0), 0);
+        loadsBehindForecasts();
+    }
+
+    // Nothing of a forecast, of the river before or of a text that did not match is left in what is loaded.
+    private static void loadsBehindForecasts() {
+        String text = RIGHTS + "season 99 98 97;years 96 95;loss 50;lease 0 1 0 9 9 9;option 1 0 0 200 99 9;";
+        String small = "reach 5 5;accounts 3;right 2 0 9 9;";
+        String due = Use.allOf(Use.of(small));
+        WaterExchange x = Use.of(text);
+        x.setKeep(0, 100);
+        x.run(3);
+        x.release(0, 0, 1);
+        x.transfer(0, 1, 77);
+        x.expected(0, 36);
+        Use.put(x, small);
+        x.load();
+        CHECK.same("4: behind a forecast", Use.allOf(x), due);
+        CHECK.same("4: behind a forecast", x.season(0) * 1000 + x.yearPercent(0), 100100);
+        WaterExchange y = Use.of("");
+        Use.put(y, text + "x");
+        CHECK.refuses("4: no match", IllegalArgumentException.class, y::load);
+        Use.put(y, small);
+        y.load();
+        CHECK.same("4: behind a text that did not match", Use.allOf(y), due);
     }
 
     private static void refusedLoads() {
@@ -181,6 +205,10 @@ public final class InputTest {
         wrong("x", 0, S);
         wrong("rea", 0, S);
         wrong("reaches 1 1;", 0, S);
+        wrong("xeach 1 1;", 0, S);
+        wrong("reacz 1 1;", 0, S);
+        wrong("reachz 1 1;", 0, S);
+        wrong("reacha 1 1;", 0, S);
         wrong("reac h 1 1;", 0, S);
         wrong("Reach 1 1;", 0, S);
         wrong("reacH 1 1;", 0, S);
@@ -285,6 +313,8 @@ public final class InputTest {
                 CHECK.same("4: right", x.right(right, what), what < 7 ? due[right][what] : 0);
             }
         }
+        CHECK.same("4: keeps 0", right(RIVER + "right 0 0 1 1 keeps 0;").right(0, 6), 0);
+        CHECK.same("4: keeps 0 behind returns", right(RIVER + "right 0 0 1 1 returns 0 0 keeps 0;").right(0, 4), 0);
         right("reach 1 1;reach 1 1;reach 1 1;right 0 0 1 1 returns 1 2;right 0 1 2 1 returns 1 2;");
         wrong("right 0 0 1 1;", 8, B);
         wrong("right 1 0 1 1;", 6, B);
