@@ -51,17 +51,16 @@ public final class WaterExchange {
     private static final int RIGHT_CUT_MONTHS = 9;
     private static final int RIGHT_COLUMNS = 10;
 
-    private static final int LEASE_RIGHT = 0;
-    private static final int LEASE_ACCOUNT = 1;
-    private static final int LEASE_REACH = 2;
+    // Leases and options begin with the same columns, so that their claims can be made in one way.
+    private static final int TRADE_RIGHT = 0;
+    private static final int TRADE_ACCOUNT = 1;
+    private static final int TRADE_REACH = 2;
+
     private static final int LEASE_VOLUME = 3;
     private static final int LEASE_PRICE = 4;
     private static final int LEASE_MONTHS = 5;
     private static final int LEASE_COLUMNS = 6;
 
-    private static final int OPTION_RIGHT = 0;
-    private static final int OPTION_ACCOUNT = 1;
-    private static final int OPTION_REACH = 2;
     private static final int OPTION_TRIGGER = 3;
     private static final int OPTION_PREMIUM = 4;
     private static final int OPTION_STRIKE = 5;
@@ -91,10 +90,8 @@ public final class WaterExchange {
     private static final int MONTH_LEAST_PRIORITY = 3;
     private static final int MONTH_COLUMNS = 4;
 
-    private final byte[] buffer;
-    private int bufferLength;
     private final State now;
-    // Every forecast and every load works on this state, so that no call has to make one.
+    // Every forecast works on this state, so that no call has to make one.
     private final State trial;
     private final Reader reader;
     private final int[] usualGot;
@@ -105,10 +102,9 @@ public final class WaterExchange {
     private final StringBuilder text;
 
     public WaterExchange() {
-        buffer = new byte[BUFFER_ROOM];
         now = new State();
         trial = new State();
-        reader = new Reader(buffer, trial);
+        reader = new Reader();
         usualGot = new int[MAX_RIGHTS];
         past = new State[MAX_UNDO];
         for (int i = 0; i < MAX_UNDO; i++) {
@@ -126,39 +122,32 @@ public final class WaterExchange {
     // ---- input
 
     public int append(int w0, int w1, int w2, int w3, int w4) {
-        if (bufferLength + 20 > BUFFER_ROOM) {
+        if (reader.length + 20 > BUFFER_ROOM) {
             return NONE;
         }
-        appendWord(w0);
-        appendWord(w1);
-        appendWord(w2);
-        appendWord(w3);
-        appendWord(w4);
-        return bufferLength;
-    }
-
-    private void appendWord(int word) {
-        for (int shift = 24; shift >= 0 && bufferLength < BUFFER_ROOM; shift -= 8) {
-            buffer[bufferLength] = (byte) (word >>> shift);
-            bufferLength++;
-        }
+        reader.addWord(w0);
+        reader.addWord(w1);
+        reader.addWord(w2);
+        reader.addWord(w3);
+        reader.addWord(w4);
+        return reader.length;
     }
 
     public boolean truncate(int length) {
-        if (length < 0 || length > bufferLength) {
+        if (length < 0 || length > reader.length) {
             return false;
         }
-        bufferLength = length;
+        reader.length = length;
         return true;
     }
 
     public int load() throws IllegalArgumentException {
-        boolean matches = reader.readText(bufferLength);
-        bufferLength = 0;
+        boolean matches = reader.readText();
+        reader.length = 0;
         if (!matches) {
             throw new IllegalArgumentException("the text does not match");
         }
-        now.copyFrom(trial);
+        now.copyFrom(reader.target);
         pastCount = 0;
         for (int slot = 0; slot < SLOTS; slot++) {
             slotFilled[slot] = false;
@@ -193,7 +182,7 @@ public final class WaterExchange {
             case 6:
                 return now.loss;
             case 7:
-                return now.years.rows;
+                return now.yearCount;
             default:
                 throw new NoSuchElementException("no such count");
         }
@@ -451,8 +440,8 @@ public final class WaterExchange {
     // The lease takes the whole amount, so that all the right gets is what its lease gets.
     private int gotByOneLease(int right, int reach) {
         trial.copyFrom(now);
-        trial.leases.removeRowsWith(LEASE_RIGHT, right);
-        trial.options.removeRowsWith(OPTION_RIGHT, right);
+        trial.leases.removeRowsWith(TRADE_RIGHT, right);
+        trial.options.removeRowsWith(TRADE_RIGHT, right);
         trial.addLease(right, 0, reach, now.rights.get(right, RIGHT_AMOUNT), 0, 1);
         trial.runMonth(NONE);
         return trial.rights.get(right, RIGHT_GOT) - now.rights.get(right, RIGHT_GOT);
@@ -462,7 +451,8 @@ public final class WaterExchange {
         needRow(now.rights, right);
         needRow(now.reaches, reach);
         needRange(volume, 1, MOST_VOLUME);
-        learnUsualGot();
+        tryMonths(1);
+        keepUsualGot();
         trial.copyFrom(now);
         trial.addLease(right, now.rights.get(right, RIGHT_ACCOUNT), reach, volume, 0, 1);
         trial.runMonth(NONE);
@@ -477,7 +467,8 @@ public final class WaterExchange {
 
     public int blocked(int right) throws IndexOutOfBoundsException {
         needRow(now.rights, right);
-        learnUsualGot();
+        tryMonths(1);
+        keepUsualGot();
         trial.copyFrom(now);
         trial.runMonth(right);
         int set = 0;
@@ -489,8 +480,7 @@ public final class WaterExchange {
         return set;
     }
 
-    private void learnUsualGot() {
-        tryMonths(1);
+    private void keepUsualGot() {
         for (int right = 0; right < MAX_RIGHTS; right++) {
             usualGot[right] = trial.rights.get(right, RIGHT_GOT);
         }
@@ -724,22 +714,32 @@ public final class WaterExchange {
             return row >= 0 && row < rows;
         }
 
-        private boolean hasCell(int row, int column) {
-            return has(row) && column >= 0 && column < columns;
-        }
-
         int get(int row, int column) {
-            return hasCell(row, column) ? cells[row * columns + column] : 0;
+            if (row < 0 || row >= rows || column < 0 || column >= columns) {
+                return 0;
+            }
+            return cells[row * columns + column];
         }
 
         void put(int row, int column, int value) {
-            if (hasCell(row, column)) {
+            if (row >= 0 && row < rows && column >= 0 && column < columns) {
                 cells[row * columns + column] = value;
             }
         }
 
         void increase(int row, int column, int by) {
-            put(row, column, get(row, column) + by);
+            if (row >= 0 && row < rows && column >= 0 && column < columns) {
+                cells[row * columns + column] += by;
+            }
+        }
+
+        void increaseFrom(int firstRow, int column, int by) {
+            if (column < 0 || column >= columns) {
+                return;
+            }
+            for (int row = Math.max(firstRow, 0); row < rows; row++) {
+                cells[row * columns + column] += by;
+            }
         }
 
         int sumOf(int column) {
@@ -756,8 +756,8 @@ public final class WaterExchange {
             }
             int row = rows;
             rows++;
-            for (int column = 0; column < columns; column++) {
-                put(row, column, 0);
+            for (int at = row * columns; at < rows * columns; at++) {
+                cells[at] = 0;
             }
             return row;
         }
@@ -797,7 +797,8 @@ public final class WaterExchange {
     private static final class State {
         private final Table reaches;
         private final int[] seasons;
-        private final Table years;
+        private final int[] years;
+        private int yearCount;
         private final Table accounts;
         private final long[] balances;
         private final Table rights;
@@ -819,7 +820,7 @@ public final class WaterExchange {
             int leaseRoom = MAX_LEASES + 1;
             reaches = new Table(MAX_REACHES, REACH_COLUMNS);
             seasons = new int[MONTHS_OF_YEAR];
-            years = new Table(MAX_YEARS, 1);
+            years = new int[MAX_YEARS];
             accounts = new Table(MAX_ACCOUNTS, ACCOUNT_COLUMNS);
             balances = new long[MAX_ACCOUNTS];
             rights = new Table(MAX_RIGHTS, RIGHT_COLUMNS);
@@ -835,7 +836,8 @@ public final class WaterExchange {
         void copyFrom(State other) {
             reaches.copyFrom(other.reaches);
             System.arraycopy(other.seasons, 0, seasons, 0, MONTHS_OF_YEAR);
-            years.copyFrom(other.years);
+            System.arraycopy(other.years, 0, years, 0, MAX_YEARS);
+            yearCount = other.yearCount;
             accounts.copyFrom(other.accounts);
             System.arraycopy(other.balances, 0, balances, 0, MAX_ACCOUNTS);
             rights.copyFrom(other.rights);
@@ -858,8 +860,8 @@ public final class WaterExchange {
             for (int month = 0; month < MONTHS_OF_YEAR; month++) {
                 seasons[month] = 100;
             }
-            years.removeAll();
-            years.put(years.addRow(), 0, 100);
+            years[0] = 100;
+            yearCount = 1;
             accounts.removeAll();
             accounts.addRow();
             for (int account = 0; account < MAX_ACCOUNTS; account++) {
@@ -889,10 +891,10 @@ public final class WaterExchange {
         }
 
         int percentOfYear(int year) {
-            if (year < 0 || years.rows <= 0) {
+            if (year < 0 || yearCount <= 0 || yearCount > MAX_YEARS) {
                 return 0;
             }
-            return years.get(year % years.rows, 0);
+            return years[year % yearCount];
         }
 
         int comingInto(int reach) {
@@ -948,9 +950,9 @@ public final class WaterExchange {
 
         int addLease(int right, int account, int reach, int volume, int price, int monthsLeft) {
             int lease = leases.addRow();
-            leases.put(lease, LEASE_RIGHT, right);
-            leases.put(lease, LEASE_ACCOUNT, account);
-            leases.put(lease, LEASE_REACH, reach);
+            leases.put(lease, TRADE_RIGHT, right);
+            leases.put(lease, TRADE_ACCOUNT, account);
+            leases.put(lease, TRADE_REACH, reach);
             leases.put(lease, LEASE_VOLUME, volume);
             leases.put(lease, LEASE_PRICE, price);
             leases.put(lease, LEASE_MONTHS, monthsLeft);
@@ -1009,8 +1011,8 @@ public final class WaterExchange {
                 return;
             }
             for (int option = 0; option < options.rows; option++) {
-                int owner = rights.get(options.get(option, OPTION_RIGHT), RIGHT_ACCOUNT);
-                pay(options.get(option, OPTION_ACCOUNT), owner, options.get(option, OPTION_PREMIUM));
+                int owner = rights.get(options.get(option, TRADE_RIGHT), RIGHT_ACCOUNT);
+                pay(options.get(option, TRADE_ACCOUNT), owner, options.get(option, OPTION_PREMIUM));
             }
         }
 
@@ -1027,39 +1029,27 @@ public final class WaterExchange {
         private void serveClaimsOf(int right) {
             int left = rights.get(right, RIGHT_AMOUNT);
             for (int lease = 0; lease < leases.rows; lease++) {
-                if (leases.get(lease, LEASE_RIGHT) == right) {
+                if (leases.get(lease, TRADE_RIGHT) == right) {
                     int number = Math.min(leases.get(lease, LEASE_VOLUME), left);
                     left -= number;
-                    claimOfLease(lease, number);
+                    claimOfOther(LEASE, leases, lease, number, leases.get(lease, LEASE_PRICE));
                 }
             }
             int option = exercisedOptionOf(right);
             if (option == NONE) {
                 claimOfOwner(right, left);
             } else {
-                claimOfOption(option, left);
+                claimOfOther(OPTION, options, option, left, options.get(option, OPTION_STRIKE));
             }
         }
 
         private int exercisedOptionOf(int right) {
             for (int option = 0; option < options.rows; option++) {
-                if (options.get(option, OPTION_RIGHT) == right && isExercised(option, time)) {
+                if (options.get(option, TRADE_RIGHT) == right && isExercised(option, time)) {
                     return option;
                 }
             }
             return NONE;
-        }
-
-        private void claimOfLease(int lease, int number) {
-            int claim = addClaim(LEASE, leases.get(lease, LEASE_RIGHT), leases.get(lease, LEASE_ACCOUNT),
-                    leases.get(lease, LEASE_REACH));
-            takeForOther(claim, number, leases.get(lease, LEASE_PRICE));
-        }
-
-        private void claimOfOption(int option, int number) {
-            int claim = addClaim(OPTION, options.get(option, OPTION_RIGHT), options.get(option, OPTION_ACCOUNT),
-                    options.get(option, OPTION_REACH));
-            takeForOther(claim, number, options.get(option, OPTION_STRIKE));
         }
 
         private int addClaim(int kind, int right, int account, int reach) {
@@ -1072,13 +1062,15 @@ public final class WaterExchange {
         }
 
         // Only what the right would use up may be taken elsewhere: the rest is what it would have returned.
-        private void takeForOther(int claim, int number, int price) {
-            int right = claimRows.get(claim, CLAIM_RIGHT);
-            int wanted = number * (100 - rights.get(right, RIGHT_RETURN_PERCENT)) / 100;
-            int taken = leastSpare(claimRows.get(claim, CLAIM_REACH), gauges.rows, wanted);
-            divert(claim, wanted, taken);
+        private void claimOfOther(int kind, Table trades, int trade, int number, int price) {
+            int right = trades.get(trade, TRADE_RIGHT);
+            int account = trades.get(trade, TRADE_ACCOUNT);
+            int reach = trades.get(trade, TRADE_REACH);
+            int wanted = percentOf(number, 100 - rights.get(right, RIGHT_RETURN_PERCENT));
+            int taken = leastSpare(reach, gauges.rows, wanted);
+            divert(addClaim(kind, right, account, reach), wanted, taken);
             int money = taken * price;
-            pay(claimRows.get(claim, CLAIM_ACCOUNT), rights.get(right, RIGHT_ACCOUNT), money);
+            pay(account, rights.get(right, RIGHT_ACCOUNT), money);
             if (right >= 0 && right < MAX_RIGHTS) {
                 earnings[right] += money;
             }
@@ -1086,34 +1078,32 @@ public final class WaterExchange {
 
         private void claimOfOwner(int right, int wanted) {
             int account = rights.get(right, RIGHT_ACCOUNT);
-            int claim = addClaim(OWN, right, account, rights.get(right, RIGHT_REACH));
-            int taken = mostForOwner(right, wanted);
-            divert(claim, wanted, taken);
-            int banked = bankedOf(right, taken);
-            claimRows.put(claim, CLAIM_BANKED, banked);
-            accounts.increase(account, ACCOUNT_BANK, banked);
-            bankedSum += banked;
-            giveBack(claim, returnedOf(right, taken));
-        }
-
-        private int bankedOf(int right, int taken) {
-            return taken * rights.get(right, RIGHT_KEEP_PERCENT) / 100;
-        }
-
-        private int returnedOf(int right, int taken) {
-            int used = taken - bankedOf(right, taken);
-            return used * rights.get(right, RIGHT_RETURN_PERCENT) / 100;
-        }
-
-        // What the claim lowers a gauge by never falls as the claim gets more, so halving finds the greatest number.
-        private int mostForOwner(int right, int wanted) {
+            int reach = rights.get(right, RIGHT_REACH);
+            int keepPercent = rights.get(right, RIGHT_KEEP_PERCENT);
+            int returnPercent = rights.get(right, RIGHT_RETURN_PERCENT);
             int returnReach = rights.get(right, RIGHT_RETURN_REACH);
+            int most = leastSpare(reach, returnReach, wanted);
+            int spareBelow = leastSpare(returnReach, gauges.rows, most);
+            int taken = mostThatLowersBy(spareBelow, most, keepPercent, returnPercent);
+            int claim = addClaim(OWN, right, account, reach);
+            divert(claim, wanted, taken);
+            int banked = percentOf(taken, keepPercent);
+            putInBank(claim, account, banked);
+            giveBack(claim, returnReach, percentOf(taken - banked, returnPercent));
+        }
+
+        private static int percentOf(int number, int percent) {
+            return number * percent / 100;
+        }
+
+        // What a claim lowers a gauge by never falls as the claim gets more, so halving finds the greatest number.
+        private static int mostThatLowersBy(int spare, int most, int keepPercent, int returnPercent) {
             int low = 0;
-            int high = leastSpare(rights.get(right, RIGHT_REACH), returnReach, wanted);
-            int spareBelow = leastSpare(returnReach, gauges.rows, high);
+            int high = most;
             for (int step = 0; step < 32 && low < high; step++) {
                 int middle = (low + high + 1) / 2;
-                if (middle - returnedOf(right, middle) <= spareBelow) {
+                int used = middle - percentOf(middle, keepPercent);
+                if (middle - percentOf(used, returnPercent) <= spare) {
                     low = middle;
                 } else {
                     high = middle - 1;
@@ -1137,24 +1127,22 @@ public final class WaterExchange {
             claimRows.put(claim, CLAIM_WANTED, wanted);
             claimRows.put(claim, CLAIM_GOT, taken);
             gauges.increase(reach, GAUGE_DIVERTED, taken);
-            changeFlow(reach, -taken);
+            gauges.increaseFrom(reach, GAUGE_AFTER, -taken);
             rights.increase(claimRows.get(claim, CLAIM_RIGHT), RIGHT_GOT, taken);
             accounts.increase(claimRows.get(claim, CLAIM_ACCOUNT), ACCOUNT_GOT, taken);
         }
 
-        private void giveBack(int claim, int returned) {
-            int right = claimRows.get(claim, CLAIM_RIGHT);
-            int reach = rights.get(right, RIGHT_RETURN_REACH);
-            claimRows.put(claim, CLAIM_RETURNED, returned);
-            gauges.increase(reach, GAUGE_RETURNED, returned);
-            changeFlow(reach, returned);
-            rights.increase(right, RIGHT_RETURNED, returned);
+        private void putInBank(int claim, int account, int banked) {
+            claimRows.put(claim, CLAIM_BANKED, banked);
+            accounts.increase(account, ACCOUNT_BANK, banked);
+            bankedSum += banked;
         }
 
-        private void changeFlow(int fromReach, int by) {
-            for (int reach = fromReach; reach < gauges.rows; reach++) {
-                gauges.increase(reach, GAUGE_AFTER, by);
-            }
+        private void giveBack(int claim, int reach, int returned) {
+            claimRows.put(claim, CLAIM_RETURNED, returned);
+            gauges.increase(reach, GAUGE_RETURNED, returned);
+            gauges.increaseFrom(reach, GAUGE_AFTER, returned);
+            rights.increase(claimRows.get(claim, CLAIM_RIGHT), RIGHT_RETURNED, returned);
         }
 
         private void remember(int sum, int leastPriority) {
@@ -1189,7 +1177,7 @@ public final class WaterExchange {
         }
     }
 
-    // The error of the latest text stands here, as no undo and no snapshot brings an older one back.
+    // The buffer and the error of the latest text stand here: no undo and no snapshot brings older ones back.
     private static final class Reader {
         private static final int END = 0;
         private static final int WORD = 1;
@@ -1206,16 +1194,22 @@ public final class WaterExchange {
         private int tokenStart;
         private int tokenEnd;
 
-        Reader(byte[] text, State target) {
-            this.text = text;
-            this.target = target;
+        Reader() {
+            text = new byte[BUFFER_ROOM];
+            target = new State();
             failOffset = NONE;
         }
 
-        boolean readText(int byteCount) {
+        void addWord(int word) {
+            for (int shift = 24; shift >= 0 && length < BUFFER_ROOM; shift -= 8) {
+                text[length] = (byte) (word >>> shift);
+                length++;
+            }
+        }
+
+        boolean readText() {
             failOffset = NONE;
             failKind = 0;
-            length = Math.min(byteCount, text.length);
             tokenEnd = 0;
             target.makeEmpty();
             nextToken();
@@ -1311,10 +1305,6 @@ public final class WaterExchange {
             return value;
         }
 
-        private int takeNumberOf(Table table) {
-            return takeNumber(0, table.rows - 1);
-        }
-
         // -- lines
 
         private void readLine() {
@@ -1370,10 +1360,11 @@ public final class WaterExchange {
 
         private void readYears() {
             nextToken();
-            target.years.removeAll();
-            target.years.put(target.years.addRow(), 0, takeNumber(0, 200));
+            target.years[0] = takeNumber(0, 200);
+            target.yearCount = 1;
             for (int year = 1; year < MAX_YEARS && tokenKind == NUMBER && failKind == 0; year++) {
-                target.years.put(target.years.addRow(), 0, takeNumber(0, 200));
+                target.years[year] = takeNumber(0, 200);
+                target.yearCount = year + 1;
             }
             if (tokenKind == NUMBER) {
                 fail(TOO_MANY, tokenStart);
@@ -1396,9 +1387,11 @@ public final class WaterExchange {
 
         private void readRight() {
             takeRowWord(target.rights, MAX_RIGHTS);
-            int account = takeNumberOf(target.accounts);
-            int reach = takeNumberOf(target.reaches);
-            int priority = takePriority();
+            int account = takeNumber(0, target.accounts.rows - 1);
+            int reach = takeNumber(0, target.reaches.rows - 1);
+            int priorityStart = tokenStart;
+            int priority = takeNumber(1, 99);
+            failIfTaken(target.rights, RIGHT_PRIORITY, priority, priorityStart);
             int amount = takeNumber(1, 999);
             int returnPercent = 0;
             int returnReach = reach;
@@ -1422,22 +1415,19 @@ public final class WaterExchange {
             target.rights.put(row, RIGHT_KEEP_PERCENT, keepPercent);
         }
 
-        private int takePriority() {
-            int start = tokenStart;
-            int priority = takeNumber(1, 99);
-            for (int right = 0; right < target.rights.rows; right++) {
-                if (target.rights.get(right, RIGHT_PRIORITY) == priority) {
-                    fail(TWICE, start);
+        private void failIfTaken(Table table, int column, int value, int offset) {
+            for (int row = 0; row < table.rows; row++) {
+                if (table.get(row, column) == value) {
+                    fail(TWICE, offset);
                 }
             }
-            return priority;
         }
 
         private void readLease() {
             takeRowWord(target.leases, MAX_LEASES);
-            int right = takeNumberOf(target.rights);
-            int account = takeNumberOf(target.accounts);
-            int reach = takeNumberOf(target.reaches);
+            int right = takeNumber(0, target.rights.rows - 1);
+            int account = takeNumber(0, target.accounts.rows - 1);
+            int reach = takeNumber(0, target.reaches.rows - 1);
             int volume = takeNumber(1, MOST_VOLUME);
             int price = takeNumber(0, MOST_UNIT_PRICE);
             int months = takeNumber(1, MOST_MONTHS);
@@ -1446,30 +1436,21 @@ public final class WaterExchange {
 
         private void readOption() {
             takeRowWord(target.options, MAX_OPTIONS);
-            int right = takeRightWithoutOption();
-            int account = takeNumberOf(target.accounts);
-            int reach = takeNumberOf(target.reaches);
+            int rightStart = tokenStart;
+            int right = takeNumber(0, target.rights.rows - 1);
+            failIfTaken(target.options, TRADE_RIGHT, right, rightStart);
+            int account = takeNumber(0, target.accounts.rows - 1);
+            int reach = takeNumber(0, target.reaches.rows - 1);
             int trigger = takeNumber(1, 200);
             int premium = takeNumber(0, 999);
             int strike = takeNumber(0, MOST_UNIT_PRICE);
             int row = target.options.addRow();
-            target.options.put(row, OPTION_RIGHT, right);
-            target.options.put(row, OPTION_ACCOUNT, account);
-            target.options.put(row, OPTION_REACH, reach);
+            target.options.put(row, TRADE_RIGHT, right);
+            target.options.put(row, TRADE_ACCOUNT, account);
+            target.options.put(row, TRADE_REACH, reach);
             target.options.put(row, OPTION_TRIGGER, trigger);
             target.options.put(row, OPTION_PREMIUM, premium);
             target.options.put(row, OPTION_STRIKE, strike);
-        }
-
-        private int takeRightWithoutOption() {
-            int start = tokenStart;
-            int right = takeNumberOf(target.rights);
-            for (int option = 0; option < target.options.rows; option++) {
-                if (target.options.get(option, OPTION_RIGHT) == right) {
-                    fail(TWICE, start);
-                }
-            }
-            return right;
         }
     }
 }
