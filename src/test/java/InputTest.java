@@ -273,6 +273,9 @@ public final class InputTest {
         x = right("years 1 2 3 4 200;years 7 0;");
         CHECK.same("4: the last years", x.count(7), 2);
         CHECK.same("4: the last years", x.yearPercent(0) * 1000 + x.yearPercent(1), 7000);
+        x = right("years 1 2 3;years 7;");
+        CHECK.same("4: one in place of three", x.count(7), 1);
+        CHECK.same("4: one in place of three", x.yearPercent(1), 7);
         wrong("years;", 5, S);
         wrong("years 201;", 6, B);
         wrong("years 0000;", 6, B);

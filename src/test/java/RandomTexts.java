@@ -70,6 +70,7 @@ final class RandomTexts {
         writeTrades(reaches, accounts, rights);
         if (draw(8) == 0) {
             put("season", rest(1 + draw(3), 0, 200));
+            put("years", rest(1 + draw(3), 0, 200));
         }
     }
 
