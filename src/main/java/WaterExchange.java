@@ -526,7 +526,9 @@ public final class WaterExchange {
             throws IndexOutOfBoundsException, IllegalArgumentException, IllegalStateException {
         needRow(now.accounts, account);
         needRow(now.reaches, reach);
-        needRange(volume, 1, Integer.MAX_VALUE);
+        if (volume < 1) {
+            throw new IllegalArgumentException("out of range");
+        }
         if (now.accounts.get(account, ACCOUNT_BANK) < volume) {
             throw new IllegalStateException("the bank has less");
         }

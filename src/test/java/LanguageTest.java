@@ -13,6 +13,7 @@ public final class LanguageTest {
         "\\bprotected\\b", "\\binstanceof\\b", "\\bvar\\b", "\\bequals\\b", "\\bhashCode\\b", "\\btoString\\b",
         "\\bstatic\\s*\\{", "\\bNaN\\b", "\\bfloat\\b", "\\bObject\\b", "Exact\\b", "\\bSystem\\.(?!arraycopy)",
         "[^\\x00-\\x7f]", "\\bwhile\\s*\\(\\s*true", "for\\s*\\(\\s*;",
+        "\\b(Integer|Long)\\.[A-Z]",
     };
     private static final Set<String> IMPORTS = Set.of("java.util.NoSuchElementException", "java.util.ArrayList",
             "java.util.List", "java.util.Arrays", "java.util.Iterator");

@@ -22,7 +22,9 @@ final class Use {
             }
             x.append(words[0], words[1], words[2], words[3], words[4]);
         }
-        x.truncate(bytes.length);
+        if (!x.truncate(bytes.length)) {
+            throw new IllegalStateException("the buffer has no room for a text of " + bytes.length + " bytes");
+        }
     }
 
     static WaterExchange of(String text) {
