@@ -456,13 +456,7 @@ public final class WaterExchange {
         trial.copyFrom(now);
         trial.addLease(right, now.rights.get(right, RIGHT_ACCOUNT), reach, volume, 0, 1);
         trial.runMonth(NONE);
-        int set = 0;
-        for (int other = 0; other < now.rights.rows; other++) {
-            if (other != right && trial.rights.get(other, RIGHT_GOT) < usualGot[other]) {
-                set |= 1 << other;
-            }
-        }
-        return set;
+        return othersThatGet(right, false);
     }
 
     public int blocked(int right) throws IndexOutOfBoundsException {
@@ -471,19 +465,24 @@ public final class WaterExchange {
         keepUsualGot();
         trial.copyFrom(now);
         trial.runMonth(right);
-        int set = 0;
-        for (int other = 0; other < now.rights.rows; other++) {
-            if (other != right && trial.rights.get(other, RIGHT_GOT) > usualGot[other]) {
-                set |= 1 << other;
-            }
-        }
-        return set;
+        return othersThatGet(right, true);
     }
 
     private void keepUsualGot() {
         for (int right = 0; right < MAX_RIGHTS; right++) {
             usualGot[right] = trial.rights.get(right, RIGHT_GOT);
         }
+    }
+
+    private int othersThatGet(int right, boolean more) {
+        int set = 0;
+        for (int other = 0; other < MAX_RIGHTS; other++) {
+            int change = trial.rights.get(other, RIGHT_GOT) - usualGot[other];
+            if (other != right && (more ? change > 0 : change < 0)) {
+                set |= 1 << other;
+            }
+        }
+        return set;
     }
 
     // ---- actions
@@ -617,7 +616,9 @@ public final class WaterExchange {
     private void record() {
         if (pastCount >= MAX_UNDO) {
             State oldest = past[0];
-            System.arraycopy(past, 1, past, 0, MAX_UNDO - 1);
+            for (int i = 1; i < MAX_UNDO; i++) {
+                past[i - 1] = past[i];
+            }
             past[MAX_UNDO - 1] = oldest;
             pastCount = MAX_UNDO - 1;
         }

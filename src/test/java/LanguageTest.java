@@ -33,6 +33,7 @@ public final class LanguageTest {
         imports(bare);
         exceptions(code);
         staticFields(bare);
+        arrayCopies(bare);
         sizes(bare);
         CHECK.end();
     }
@@ -57,6 +58,18 @@ public final class LanguageTest {
         while (m.find()) {
             CHECK.holds("5: " + m.group(), m.group().matches("(?s)static final (int|long|boolean|char|String)(\\[\\])? .*"));
         }
+    }
+
+    // Rule 4 can be read so that System.arraycopy, too, is for arrays of numbers alone.
+    private static void arrayCopies(String code) {
+        Matcher arrays = Pattern.compile("\\b[A-Z]\\w*\\[\\] (\\w+);").matcher(code);
+        int found = 0;
+        while (arrays.find()) {
+            found++;
+            Matcher copy = Pattern.compile("System\\.arraycopy\\([^;]*\\b" + arrays.group(1) + "\\b").matcher(code);
+            CHECK.fails("4: System.arraycopy of " + arrays.group(1), copy.find());
+        }
+        CHECK.holds("4: arrays of objects were found", found > 0);
     }
 
     // Rule 11, by the lines' indents: a method of the class stands at 4, one of a class inside it at 8.
