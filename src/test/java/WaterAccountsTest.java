@@ -13,6 +13,7 @@ public final class WaterAccountsTest {
         bankSums();
         losses();
         richest();
+        greatBalances();
         CHECK.end();
     }
 
@@ -128,5 +129,33 @@ public final class WaterAccountsTest {
         x = Use.of("reach 1 0;accounts 2;right 1 0 1 1;");
         x.transfer(0, 0, 9999);
         CHECK.same("34: the other one is below 0", x.richest(), 1);
+    }
+
+    private static void greatBalances() {
+        StringBuilder text = new StringBuilder("reach 999 0;".repeat(6) + "accounts 3;");
+        for (int i = 0; i < 6; i++) {
+            text.append("right 1 ").append(i).append(' ').append(i + 1).append(" 999;option ");
+            text.append(i).append(" 2 ").append(i).append(" 200 0 99;");
+        }
+        WaterExchange x = Use.of(text.toString());
+        for (int call = 0; call < 100; call++) {
+            x.run(36);
+        }
+        long paidInMonth = 6 * 999 * 99;
+        CHECK.same("37: more than an int holds", x.balanceAfter(1, 36), 101 * 36 * paidInMonth);
+        CHECK.same("37: less than an int holds", x.balanceAfter(2, 36), -101 * 36 * paidInMonth);
+        x.run(36);
+        CHECK.same("12: more than an int holds", x.balance(1), 101 * 36 * paidInMonth);
+        CHECK.same("12: less than an int holds", x.balance(2), -101 * 36 * paidInMonth);
+        CHECK.same("29: in all for one right", x.earned(5), 101 * 36 * 999 * 99);
+        CHECK.same("34: the greatest one", x.richest(), 1);
+        CHECK.holds("33: right", x.areAccountsRight());
+        x.undo();
+        CHECK.same("52: a great balance, too", x.balance(1), 100 * 36 * paidInMonth);
+        x.run(36);
+        x.save(0);
+        x.transfer(0, 0, 1);
+        x.restore(0);
+        CHECK.same("55: a great balance, too", x.balance(1), 101 * 36 * paidInMonth);
     }
 }
